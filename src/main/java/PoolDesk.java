@@ -196,6 +196,16 @@ public final class PoolDesk {
             d = fourth;
         }
 
+        void write(long[] words, int at) {
+            if (at < 0 || at > words.length - NAME_WORDS) {
+                return;
+            }
+            words[at] = a;
+            words[at + 1] = b;
+            words[at + 2] = c;
+            words[at + 3] = d;
+        }
+
         boolean same(Name other) {
             return a == other.a && b == other.b && c == other.c && d == other.d;
         }
@@ -215,11 +225,7 @@ public final class PoolDesk {
             if (held >= MOST_KEYS || contains(name, index)) {
                 return false;
             }
-            int at = held * NAME_WORDS;
-            words[at] = name.a;
-            words[at + 1] = name.b;
-            words[at + 2] = name.c;
-            words[at + 3] = name.d;
+            name.write(words, held * NAME_WORDS);
             indexes[held] = index;
             held++;
             return true;
@@ -533,11 +539,7 @@ public final class PoolDesk {
             if (length >= PLACES) {
                 return;
             }
-            int at = length * NAME_WORDS;
-            words[at] = name.a;
-            words[at + 1] = name.b;
-            words[at + 2] = name.c;
-            words[at + 3] = name.d;
+            name.write(words, length * NAME_WORDS);
             length++;
         }
 

@@ -8,6 +8,7 @@ public final class EnterTest {
         keysGoWhateverIsAnswered();
         sameName();
         spentKey();
+        spentKeyHasAWholeName();
         missingOutputOfParent();
         missingOutputOfNewcomer();
         hangsOnItself();
@@ -83,6 +84,19 @@ public final class EnterTest {
         Due.is("another name", Due.enter(x, 3, 1, 1, 1, 7, 5), 0);
         Due.is("drop 1", Due.named(x, 1).drop(), 1);
         Due.is("free again", Due.enter(x, 4, 1, 1, 1, 9, 1), 0);
+    }
+
+    private static void spentKeyHasAWholeName() {
+        PoolDesk x = new PoolDesk();
+        long[][] names = {{5, 6, 7, 8}, {4, 6, 7, 8}, {5, 4, 7, 8}, {5, 6, 4, 8}, {5, 6, 7, 4}};
+        for (int round = 0; round < 2; round++) {
+            for (int n = 0; n < names.length; n++) {
+                x.name(names[n][0], names[n][1], names[n][2], names[n][3]);
+                Due.is("spend", x.spend(0), true);
+                Due.named(x, 100 + 10 * round + n);
+                Due.is("round " + round + ", key " + n, x.enter(1, 1, 1), round == 0 ? 0 : 2);
+            }
+        }
     }
 
     private static void missingOutputOfParent() {
