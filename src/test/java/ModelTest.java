@@ -5,6 +5,7 @@ public final class ModelTest {
     private static final int RUNS = 1500;
     private static final int CALLS = 512;
     private static final long MOST_FEE = 2_100_000_000_000_000L;
+    private static final long[] ODD_FEES = {-1, MOST_FEE + 1, Long.MIN_VALUE, Long.MAX_VALUE};
     private static final int[] ODD = {Integer.MIN_VALUE, -2, -1, 0, 8, 9, 40, 2001, Integer.MAX_VALUE};
 
     private final PoolDesk desk = new PoolDesk();
@@ -78,7 +79,7 @@ public final class ModelTest {
         }
         hold(own);
         boolean wild = random.nextInt(30) == 0;
-        long fee = wild && random.nextBoolean() ? new long[] {-1, MOST_FEE + 1, Long.MIN_VALUE, Long.MAX_VALUE}[random.nextInt(4)] : fee();
+        long fee = wild && random.nextBoolean() ? ODD_FEES[random.nextInt(ODD_FEES.length)] : fee();
         int size = wild && random.nextBoolean() ? odd() : 1 + random.nextInt(feeKind == 0 ? 5 : 2000);
         int outputs = wild && random.nextBoolean() ? odd() : random.nextInt(6) == 0 ? random.nextInt(9) : 4;
         return same("enter " + fee + " " + size + " " + outputs,
