@@ -1,55 +1,94 @@
-/** Promise 4, and what ENTERING says up to answer 4. */
+/** Promise 4: what may be entered at all, and what becomes of the keys. */
 public final class EnterTest {
-    private static final long MOST_FEE = 2_100_000_000_000_000L;
-
     public static void main(String[] args) {
-        limitsOfFeeSizeOutputs();
-        refusedChangesNothing();
-        keysGoWhateverIsAnswered();
-        sameName();
-        spentKey();
-        spentKeyHasAWholeName();
-        missingOutputOfParent();
-        missingOutputOfNewcomer();
-        hangsOnItself();
-        hangsThroughFamily();
-        familyWithoutCircleIsFine();
-        firstReasonAnswers();
-        parentMayComeLater();
+        Due.says("a FEE (0 .. 21 * 10 ^ 14)", EnterTest::feeHasBounds);
+        Due.says("a SIZE (1 .. 2000)", EnterTest::sizeHasBounds);
+        Due.says("how many OUTPUTS it has (0 .. 8)", EnterTest::outputsHaveBounds);
+        Due.says("1 .. 8 different keys that it SPENDS", EnterTest::oneToEightKeys);
+        Due.says("A transaction with the name in hand and the keys that were told enters", EnterTest::whatWasToldEnters);
+        Due.says("there are no keys then, whatever is answered", EnterTest::keysGoWhateverIsAnswered);
+        Due.says("there are no keys then, whatever is answered", EnterTest::keysGoWithAnswerFive);
+        Due.says("-1, refused (the keys stay)", EnterTest::keysStayIfRefused);
+        Due.says("if there are no keys", EnterTest::refusedWithoutKeys);
+        Due.says("or fee, size or outputs are not as said", EnterTest::refusedBeforeAnyOtherAnswer);
         Due.end();
     }
 
-    private static void limitsOfFeeSizeOutputs() {
+    private static void isRefused(long fee, int size, int outputs) {
+        String call = "enter " + fee + " " + size + " " + outputs;
         PoolDesk x = new PoolDesk();
         Due.tell(x, 9, 0);
-        Due.named(x, 1);
-        long[][] bad = {{-1, 1, 0}, {Long.MIN_VALUE, 1, 0}, {MOST_FEE + 1, 1, 0}, {Long.MAX_VALUE, 1, 0},
-            {0, 0, 0}, {0, -1, 0}, {0, Integer.MIN_VALUE, 0}, {0, 2001, 0}, {0, Integer.MAX_VALUE, 0},
-            {0, 1, -1}, {0, 1, 9}, {0, 1, Integer.MIN_VALUE}, {0, 1, Integer.MAX_VALUE}};
-        for (long[] b : bad) {
-            Due.is("enter " + b[0] + " " + b[1] + " " + b[2], x.enter(b[0], (int) b[1], (int) b[2]), -1);
-            Due.is("keys stay", x.count(3), 1);
-        }
-        Due.is("least", x.enter(0, 1, 0), 0);
-        Due.is("most", Due.enter(x, 2, MOST_FEE, 2000, 8, 9, 1), 0);
-        Due.is("fee", x.look(0), MOST_FEE);
-        Due.is("size", x.look(1), 2000);
-        Due.is("outputs", x.look(2), 8);
+        Due.is(call, Due.named(x, 1).enter(fee, size, outputs), -1);
+        Due.counts(x, 0, 0, 0, 1, 0);
+        Due.is("the key stays after " + call, x.enter(0, 1, 0), 0);
+        Due.is("it is the first to come", x.look(9), 1);
     }
 
-    private static void refusedChangesNothing() {
+    private static void comesIn(long fee, int size, int outputs) {
         PoolDesk x = new PoolDesk();
-        Due.comes(x, 1, 10, 20, 3, 9, 0);
-        Due.is("no keys", x.enter(1, 1, 1), -1);
-        Due.is("no keys, another name", Due.named(x, 2).enter(1, 1, 1), -1);
-        Due.tell(x, 9, 1);
-        Due.is("a bad fee and a name that is there", Due.named(x, 1).enter(-1, 1, 1), -1);
-        Due.is("count", x.count(0), 1);
-        Due.is("keys spent", x.count(1), 1);
-        Due.is("came", x.count(4), 1);
-        Due.is("fee", x.look(0), 10);
-        Due.is("the key that stayed", Due.named(x, 2).enter(1, 1, 1), 0);
-        Due.is("the name in hand stays", x.look(9), 2);
+        Due.comes(x, 1, fee, size, outputs, 9, 0);
+        Due.looks(x, 1, fee, size, outputs, 1, 0, 0, 1, fee, size, 1);
+    }
+
+    private static void feeHasBounds() {
+        long[] good = {0, 1, Integer.MAX_VALUE, 1L << 31, 1L << 32, Due.MOST_FEE - 1, Due.MOST_FEE};
+        long[] bad = {-1, -Due.MOST_FEE, Long.MIN_VALUE, Due.MOST_FEE + 1, 1L << 62, Long.MAX_VALUE};
+        for (long fee : good) {
+            comesIn(fee, 10, 1);
+        }
+        for (long fee : bad) {
+            isRefused(fee, 10, 1);
+        }
+    }
+
+    private static void sizeHasBounds() {
+        int[] good = {1, 2, 255, 256, 1999, 2000};
+        int[] bad = {0, -1, -2000, Integer.MIN_VALUE, 2001, 65537, Integer.MAX_VALUE};
+        for (int size : good) {
+            comesIn(5, size, 1);
+        }
+        for (int size : bad) {
+            isRefused(5, size, 1);
+        }
+    }
+
+    private static void outputsHaveBounds() {
+        int[] bad = {-1, -8, Integer.MIN_VALUE, 9, 256, 65536, Integer.MAX_VALUE};
+        for (int outputs = 0; outputs <= 8; outputs++) {
+            comesIn(5, 10, outputs);
+        }
+        for (int outputs : bad) {
+            isRefused(5, 10, outputs);
+        }
+        isRefused(-1, 0, -1);
+        isRefused(Due.MOST_FEE + 1, 2001, 9);
+    }
+
+    private static void oneToEightKeys() {
+        PoolDesk x = new PoolDesk();
+        for (int keys = 1; keys <= 8; keys++) {
+            for (int k = 0; k < keys; k++) {
+                Due.tell(x, 10 * keys, k);
+            }
+            Due.is("enter with " + keys, Due.named(x, keys).enter(1, 1, 1), 0);
+            Due.is("keys that it spends", x.look(3), keys);
+        }
+        Due.is("keys of all", x.count(1), 36);
+    }
+
+    private static void whatWasToldEnters() {
+        PoolDesk x = new PoolDesk();
+        Due.tell(x, 9, 0, 8, 1);
+        x.name(1, 2, 3, 4);
+        Due.is("enter", x.enter(30, 20, 2), 0);
+        Due.is("fee", x.look(0), 30);
+        Due.is("size", x.look(1), 20);
+        Due.is("outputs", x.look(2), 2);
+        Due.is("keys", x.look(3), 2);
+        Due.comes(x, 5, 1, 1, 1, 7, 0);
+        Due.is("keys of the one before are not told again", x.look(3), 1);
+        Due.is("strike 8:1", Due.named(x, 8).strike(1), 1);
+        Due.areIn(x, 5);
     }
 
     private static void keysGoWhateverIsAnswered() {
@@ -58,123 +97,60 @@ public final class EnterTest {
         long[] own = {1, 1, 3, 3, 3};
         for (int n = 0; n < keys.length; n++) {
             Due.is("answer " + n, Due.enter(x, own[n], 1, 1, 2, keys[n]), n);
-            Due.is("keys after " + n, x.count(3), 0);
-            Due.is("in the pool after " + n, x.count(0), 1);
-            Due.is("came after " + n, x.count(4), 1);
+            Due.counts(x, 1, 1, 1, 0, 1);
+            Due.is("enter again", x.enter(1, 1, 2), -1);
+            Due.is("the same key can be told after " + n, Due.named(x, keys[n][0]).spend((int) keys[n][1]), true);
+            Due.is("and goes", Due.named(x, 1).enter(1, 1, 2), 1);
         }
     }
 
-    private static void sameName() {
+    private static void keysGoWithAnswerFive() {
+        PoolDesk x = new PoolDesk();
+        Due.fill(x, 100, 40, 10, 10);
+        Due.is("pays less", Due.enter(x, 60, 0, 10, 1, 9, 1, 9, 2), 5);
+        Due.is("keys in hand", x.count(3), 0);
+        Due.is("enter again", x.enter(1, 1, 2), -1);
+    }
+
+    private static void keysStayIfRefused() {
+        PoolDesk x = new PoolDesk();
+        Due.tell(x, 9, 0, 8, 0, 7, 0);
+        Due.named(x, 1);
+        Due.is("a bad fee", x.enter(-1, 1, 1), -1);
+        Due.is("a bad size", x.enter(1, 0, 1), -1);
+        Due.is("bad outputs", x.enter(1, 1, 9), -1);
+        Due.is("keys in hand", x.count(3), 3);
+        Due.is("a key that is still told", Due.named(x, 8).spend(0), false);
+        Due.is("one more", x.spend(1), true);
+        Due.is("enter", Due.named(x, 1).enter(1, 1, 1), 0);
+        Due.is("keys", x.look(3), 4);
+        Due.is("strike 7:0", Due.named(x, 7).strike(0), 1);
+    }
+
+    private static void refusedWithoutKeys() {
+        PoolDesk x = new PoolDesk();
+        Due.is("a new object", x.enter(1, 1, 1), -1);
+        Due.comes(x, 1, 10, 20, 3, 9, 0);
+        Due.is("a name that is there", x.enter(1, 1, 1), -1);
+        Due.is("a new name", Due.named(x, 2).enter(1, 1, 1), -1);
+        Due.is("bad numbers too", x.enter(-1, 0, 9), -1);
+        Due.counts(x, 1, 1, 20, 0, 1);
+        Due.looks(x, 1, 10, 20, 3, 1, 0, 0, 1, 10, 20, 1);
+    }
+
+    private static void refusedBeforeAnyOtherAnswer() {
         PoolDesk x = new PoolDesk();
         Due.comes(x, 1, 10, 20, 3, 9, 0);
-        Due.is("same name", Due.enter(x, 1, 1, 1, 1, 9, 1), 1);
-        Due.is("the old one stays", x.look(0), 10);
-        Due.is("take", x.take(), true);
-        Due.comes(x, 1, 11, 20, 3, 9, 0);
-        Due.is("the new one", x.look(0), 11);
-        Due.is("its coming", x.look(9), 2);
-    }
-
-    private static void spentKey() {
-        PoolDesk x = new PoolDesk();
-        Due.comes(x, 1, 10, 20, 3, 9, 0, 9, 1, 8, 5);
-        Due.is("last of three", Due.enter(x, 2, 1, 1, 1, 7, 0, 8, 5), 2);
-        Due.is("middle", Due.enter(x, 2, 1, 1, 1, 9, 1), 2);
-        Due.is("another index", Due.enter(x, 2, 1, 1, 1, 9, 2), 0);
-        Due.is("another name", Due.enter(x, 3, 1, 1, 1, 7, 5), 0);
-        Due.is("drop 1", Due.named(x, 1).drop(), 1);
-        Due.is("free again", Due.enter(x, 4, 1, 1, 1, 9, 1), 0);
-    }
-
-    private static void spentKeyHasAWholeName() {
-        PoolDesk x = new PoolDesk();
-        long[][] names = {{5, 6, 7, 8}, {4, 6, 7, 8}, {5, 4, 7, 8}, {5, 6, 4, 8}, {5, 6, 7, 4}};
-        for (int round = 0; round < 2; round++) {
-            for (int n = 0; n < names.length; n++) {
-                x.name(names[n][0], names[n][1], names[n][2], names[n][3]);
-                Due.is("spend", x.spend(0), true);
-                Due.named(x, 100 + 10 * round + n);
-                Due.is("round " + round + ", key " + n, x.enter(1, 1, 1), round == 0 ? 0 : 2);
-            }
+        long[][] keys = {{8, 0}, {9, 0}, {1, 3}, {3, 0}};
+        long[] own = {1, 3, 3, 3};
+        for (int n = 0; n < keys.length; n++) {
+            Due.tell(x, keys[n]);
+            Due.named(x, own[n]);
+            Due.is("a bad fee", x.enter(Due.MOST_FEE + 1, 1, 1), -1);
+            Due.is("a bad size", x.enter(1, 2001, 1), -1);
+            Due.is("bad outputs", x.enter(1, 1, -1), -1);
+            Due.is("else the answer is " + (n + 1), x.enter(1, 1, 1), n + 1);
         }
-    }
-
-    private static void missingOutputOfParent() {
-        PoolDesk x = new PoolDesk();
-        Due.comes(x, 1, 1, 1, 2, 9, 0);
-        Due.is("1:-1", Due.enter(x, 2, 1, 1, 1, 1, -1), 3);
-        Due.is("1:2", Due.enter(x, 2, 1, 1, 1, 9, 1, 1, 2), 3);
-        Due.is("1:MAX", Due.enter(x, 2, 1, 1, 1, 1, Integer.MAX_VALUE), 3);
-        Due.is("1:MIN", Due.enter(x, 2, 1, 1, 1, 1, Integer.MIN_VALUE), 3);
-        Due.is("1:0 and 1:1", Due.enter(x, 2, 1, 1, 0, 1, 0, 1, 1), 0);
-        Due.is("2:0, which has no outputs", Due.enter(x, 3, 1, 1, 0, 2, 0), 3);
-    }
-
-    private static void missingOutputOfNewcomer() {
-        PoolDesk x = new PoolDesk();
-        Due.comes(x, 2, 1, 1, 1, 1, 4);
-        Due.comes(x, 3, 1, 1, 1, 5, -1);
-        Due.is("1 with 4 outputs", Due.enter(x, 1, 1, 1, 4, 9, 0), 3);
-        Due.is("1 with none", Due.enter(x, 1, 1, 1, 0, 9, 0), 3);
-        Due.is("5 with a spent -1", Due.enter(x, 5, 1, 1, 8, 9, 0), 3);
-        Due.is("1 with 5 outputs", Due.enter(x, 1, 1, 1, 5, 9, 0), 0);
-        Due.is("its children", x.look(5), 1);
-    }
-
-    private static void hangsOnItself() {
-        PoolDesk x = new PoolDesk();
-        Due.is("an output of its own", Due.enter(x, 1, 1, 1, 2, 1, 0), 4);
-        Due.is("no output of its own", Due.enter(x, 1, 1, 1, 2, 9, 0, 1, 7), 4);
-        Due.is("a negative one of its own", Due.enter(x, 1, 1, 1, 2, 1, -1), 4);
-        Due.is("nothing came", x.count(4), 0);
-    }
-
-    private static void hangsThroughFamily() {
-        PoolDesk x = new PoolDesk();
-        Due.comes(x, 2, 1, 1, 1, 1, 0);
-        Due.is("a circle of two", Due.enter(x, 1, 1, 1, 1, 2, 0), 4);
-        Due.comes(x, 3, 1, 1, 1, 2, 0);
-        Due.comes(x, 4, 1, 1, 1, 3, 0);
-        Due.is("a circle of four", Due.enter(x, 1, 1, 1, 1, 9, 0, 4, 0), 4);
-        Due.is("take the middle", Due.named(x, 3).take(), true);
-        Due.is("no circle without it", Due.enter(x, 1, 1, 1, 1, 4, 0), 0);
-        Due.is("the middle comes back", Due.enter(x, 3, 1, 1, 1, 2, 0), 4);
-        Due.is("on another key", Due.enter(x, 3, 1, 1, 1, 9, 0), 0);
-        Due.is("the family of 3", x.look(6), 4);
-    }
-
-    private static void familyWithoutCircleIsFine() {
-        PoolDesk x = new PoolDesk();
-        Due.comes(x, 1, 1, 1, 2, 9, 0);
-        Due.comes(x, 2, 1, 1, 1, 1, 0);
-        Due.comes(x, 3, 1, 1, 1, 1, 1);
-        Due.comes(x, 4, 1, 1, 1, 2, 0, 3, 0);
-        Due.is("1 spends what 4 would be, taken and told anew", Due.named(x, 1).take(), true);
-        Due.is("1 on a child's other family", Due.enter(x, 1, 1, 1, 2, 9, 5, 4, 0), 4);
-        Due.is("1 on a stranger", Due.enter(x, 1, 1, 1, 2, 9, 5), 0);
-    }
-
-    private static void firstReasonAnswers() {
-        PoolDesk x = new PoolDesk();
-        Due.comes(x, 1, 1, 1, 1, 9, 0);
-        Due.comes(x, 2, 1, 1, 1, 5, 3);
-        Due.comes(x, 3, 1, 1, 1, 5, 0);
-        Due.is("1 before 2, 3, 4", Due.enter(x, 1, 1, 1, 1, 9, 0, 2, 8, 1, 0), 1);
-        Due.is("2 before 3, 4", Due.enter(x, 5, 1, 1, 1, 9, 0, 2, 8, 5, 0), 2);
-        Due.is("2 before 3 in keys told later", Due.enter(x, 6, 1, 1, 1, 1, 4, 9, 0), 2);
-        Due.is("3 before 4", Due.enter(x, 5, 1, 1, 1, 5, 1, 3, 0), 3);
-        Due.is("3 before 4 by a parent's output", Due.enter(x, 5, 1, 1, 4, 5, 1, 3, 1), 3);
-        Due.is("4 at last", Due.enter(x, 5, 1, 1, 4, 3, 0), 4);
-    }
-
-    private static void parentMayComeLater() {
-        PoolDesk x = new PoolDesk();
-        Due.comes(x, 2, 10, 1, 1, 1, 0);
-        Due.comes(x, 3, 20, 1, 1, 1, 1);
-        Due.is("no parent yet", x.look(4), 0);
-        Due.comes(x, 1, 30, 1, 2, 9, 0);
-        Due.is("children", x.look(5), 2);
-        Due.is("family's fees", x.look(7), 60);
-        Due.is("the parent of 2", Due.named(x, 2).look(4), 1);
+        Due.counts(x, 1, 1, 20, 0, 1);
     }
 }
