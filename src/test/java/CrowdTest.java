@@ -3,26 +3,21 @@ public final class CrowdTest {
     private static final long MOST_FEE = Due.MOST_FEE;
 
     public static void main(String[] args) {
-        Due.says("If there are more than 40 then", CrowdTest::fortyMayStay);
-        Due.says("If there are more than 40 then", CrowdTest::fortyAgainAfterOneLeft);
-        Due.says("the one whose family has the least rate", CrowdTest::leastPayingGoes);
-        Due.says("the one whose family has the least rate", CrowdTest::goodChildSavesItsParent);
-        Due.says("the one whose family has the least rate", CrowdTest::poorChildGoesWithoutItsParent);
-        Due.says("the one whose family has the least rate", CrowdTest::familyNotChildrenAlone);
-        Due.says("(of like ones that which came last) goes", CrowdTest::lastOfLikeOnesGoes);
-        Due.says("(of like ones that which came last) goes", CrowdTest::likeOnesInOneFamily);
-        Due.says("(of like ones that which came last) goes", CrowdTest::feesOfZeroAreLike);
-        Due.says("goes, with its family", CrowdTest::familyGoesToo);
-        Due.says("goes, with its family", CrowdTest::allMayGo);
-        Due.says("if the one that came is among them, the answer is 5", CrowdTest::newcomerGoes);
-        Due.says("if the one that came is among them, the answer is 5", CrowdTest::newcomerGoesWithItsParent);
-        Due.says("if the one that came is among them, the answer is 5", CrowdTest::newcomerTakesItsChildAlong);
-        Due.says("otherwise 0", CrowdTest::newcomerStaysWithoutItsChild);
-        Due.says("otherwise 0", CrowdTest::newcomerStaysWithItsParent);
-        Due.says("The RATE of one or more is the sum of their fees by the sum of their sizes", CrowdTest::rateIsOfSums);
-        Due.says("(a fraction, exact)", CrowdTest::rateIsExactForLargeFamilies);
-        Due.says("(a fraction, exact)", CrowdTest::rateIsExactInSmallParts);
-        Due.says("(a fraction, exact)", CrowdTest::rateIsNoWholeNumber);
+        Due.says("If there are more than 40 then", CrowdTest::fortyMayStay, CrowdTest::fortyAgainAfterOneLeft);
+        Due.says("the one whose family has the least rate",
+            CrowdTest::leastPayingGoes, CrowdTest::earlyOneThatPaysLessGoes, CrowdTest::goodChildSavesItsParent,
+            CrowdTest::poorChildGoesWithoutItsParent, CrowdTest::familyNotChildrenAlone);
+        Due.says("(of like ones that which came last) goes",
+            CrowdTest::lastOfLikeOnesGoes, CrowdTest::likeOnesInOneFamily, CrowdTest::feesOfZeroAreLike);
+        Due.says("goes, with its family", CrowdTest::familyGoesToo, CrowdTest::allMayGo);
+        Due.says("if the one that came is among them, the answer is 5",
+            CrowdTest::newcomerGoes, CrowdTest::newcomerGoesWithItsParent, CrowdTest::newcomerTakesItsChildAlong);
+        Due.says("otherwise 0", CrowdTest::newcomerStaysWithoutItsChild, CrowdTest::newcomerStaysWithItsParent);
+        Due.says("The RATE of one or more is the sum of their fees by the sum of their sizes",
+            CrowdTest::rateIsOfSums);
+        Due.says("(a fraction, exact)",
+            CrowdTest::rateIsExactForLargeFamilies, CrowdTest::rateIsExactInSmallParts,
+            CrowdTest::rateIsNoWholeNumber);
         Due.end();
     }
 
@@ -60,6 +55,19 @@ public final class CrowdTest {
         Due.areIn(x, 60);
         Due.counts(x, 40, 40, 400, 0, 41);
         Due.is("9:0 is free", Due.named(x, 9).strike(0), 0);
+    }
+
+    // 200 comes when 100 has left, so that it may stand where an earlier one stood.
+    private static void earlyOneThatPaysLessGoes() {
+        PoolDesk x = new PoolDesk();
+        Due.fill(x, 100, 1, 20, 10);
+        Due.comes(x, 50, 5, 10, 1, 9, 0);
+        Due.fill(x, 101, 38, 20, 10);
+        Due.is("drop 100", Due.named(x, 100).drop(), 1);
+        Due.fill(x, 200, 1, 20, 10);
+        Due.is("one more", Due.enter(x, 201, 20, 10, 1, 9, 1), 0);
+        Due.areGone(x, 50);
+        Due.areIn(x, 200, 201);
     }
 
     private static void goodChildSavesItsParent() {

@@ -14,13 +14,15 @@ final class Due {
     private Due() {
     }
 
-    /** Runs the test of a sentence. Its words have to stand in the document, so that none is tested that is not said. */
-    static void says(String words, Runnable test) {
+    /** Runs the tests of a sentence; its words have to stand in the document, lest a test outlive what it tests. */
+    static void says(String words, Runnable... tests) {
         sentence = "\"" + words + "\": ";
         if (!DOCUMENT.isEmpty()) {
             is("stands in the document", DOCUMENT.contains(words), true);
         }
-        test.run();
+        for (Runnable test : tests) {
+            test.run();
+        }
         sentence = "";
     }
 

@@ -5,9 +5,10 @@ public final class EnterTest {
         Due.says("a SIZE (1 .. 2000)", EnterTest::sizeHasBounds);
         Due.says("how many OUTPUTS it has (0 .. 8)", EnterTest::outputsHaveBounds);
         Due.says("1 .. 8 different keys that it SPENDS", EnterTest::oneToEightKeys);
-        Due.says("A transaction with the name in hand and the keys that were told enters", EnterTest::whatWasToldEnters);
-        Due.says("there are no keys then, whatever is answered", EnterTest::keysGoWhateverIsAnswered);
-        Due.says("there are no keys then, whatever is answered", EnterTest::keysGoWithAnswerFive);
+        Due.says("A transaction with the name in hand and the keys that were told enters",
+            EnterTest::whatWasToldEnters);
+        Due.says("there are no keys then, whatever is answered",
+            EnterTest::keysGoWhateverIsAnswered, EnterTest::keysGoWithAnswerFive);
         Due.says("-1, refused (the keys stay)", EnterTest::keysStayIfRefused);
         Due.says("if there are no keys", EnterTest::refusedWithoutKeys);
         Due.says("or fee, size or outputs are not as said", EnterTest::refusedBeforeAnyOtherAnswer);

@@ -4,21 +4,22 @@ public final class EnteringTest {
         Integer.MAX_VALUE};
 
     public static void main(String[] args) {
-        Due.says("ENTERING, the first of these that is so", EnteringTest::firstReasonAnswers);
-        Due.says("ENTERING, the first of these that is so", EnteringTest::reasonsGoBeforeTheCrowd);
-        Due.says("1 there is one of that name in the pool", EnteringTest::sameName);
-        Due.says("1 there is one of that name in the pool", EnteringTest::namesThatLeftAreFree);
-        Due.says("2 another one in the pool spends one of its keys", EnteringTest::anyKeyOfAny);
-        Due.says("2 another one in the pool spends one of its keys", EnteringTest::keysThatLeftAreFree);
+        Due.says("ENTERING, the first of these that is so",
+            EnteringTest::firstReasonAnswers, EnteringTest::reasonsGoBeforeTheCrowd);
+        Due.says("1 there is one of that name in the pool",
+            EnteringTest::sameName, EnteringTest::namesThatLeftAreFree);
+        Due.says("2 another one in the pool spends one of its keys",
+            EnteringTest::anyKeyOfAny, EnteringTest::keysThatLeftAreFree);
         Due.says("3 it spends a key with the name of one in the pool and an index that is not 0 .. its outputs - 1",
             EnteringTest::missingOutputOfAParent);
         Due.says("3 it spends a key with the name of one in the pool", EnteringTest::anyIndexOfAStranger);
-        Due.says("or has an output that is spent so: one in the pool spends a key of its name and an index that is not"
-            + " 0 .. its outputs - 1", EnteringTest::missingOutputOfTheNewcomer);
+        Due.says("or has an output that is spent so: one in the pool spends a key of its name and an index"
+            + " that is not 0 .. its outputs - 1",
+            EnteringTest::missingOutputOfTheNewcomer);
         Due.says("4 it would hang on itself: it spends a key of its own name", EnteringTest::keyOfItsOwnName);
-        Due.says("or of that of one of its family", EnteringTest::circlesOfAllLengths);
-        Due.says("or of that of one of its family", EnteringTest::circleOnOneSideOfADiamond);
-        Due.says("or of that of one of its family", EnteringTest::othersThanItsFamilyAreFine);
+        Due.says("or of that of one of its family",
+            EnteringTest::circlesOfAllLengths, EnteringTest::circleOnOneSideOfADiamond,
+            EnteringTest::othersThanItsFamilyAreFine);
         Due.says("else it comes into the pool", EnteringTest::nothingComesWithAReason);
         Due.says("In the pool no two have one name, or spend one key.", EnteringTest::noTwoAlike);
         Due.end();

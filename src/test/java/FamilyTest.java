@@ -2,21 +2,16 @@
 public final class FamilyTest {
     public static void main(String[] args) {
         Due.says("A PARENT of one is a transaction in the pool whose name is in one of the keys that it spends",
-            FamilyTest::parentsAreThoseInThePool);
-        Due.says("A PARENT of one is a transaction in the pool whose name is in one of the keys that it spends",
-            FamilyTest::eightParents);
+            FamilyTest::parentsAreThoseInThePool, FamilyTest::eightParents);
         Due.says("whose name is in one of the keys that it spends", FamilyTest::parentCountsOnce);
-        Due.says("(also if it came later)", FamilyTest::parentMayComeLater);
-        Due.says("(also if it came later)", FamilyTest::parentMayComeBetween);
-        Due.says("CHILDREN the other way round", FamilyTest::eightChildren);
-        Due.says("CHILDREN the other way round", FamilyTest::childrenThatLeft);
+        Due.says("(also if it came later)", FamilyTest::parentMayComeLater, FamilyTest::parentMayComeBetween);
+        Due.says("CHILDREN the other way round", FamilyTest::eightChildren, FamilyTest::childrenThatLeft);
         Due.says("Its FAMILY: itself", FamilyTest::familyOfOne);
-        Due.says("its children, theirs, and so on", FamilyTest::chainOfForty);
-        Due.says("its children, theirs, and so on", FamilyTest::chainThatCameBackwards);
-        Due.says("its children, theirs, and so on", FamilyTest::sharedChildCountsOnce);
-        Due.says("its children, theirs, and so on", FamilyTest::familyEndsWhereOneLeft);
-        Due.says("its COMING: 1, 2, .. in the order in which they came into the pool", FamilyTest::comingsCountUp);
-        Due.says("its COMING: 1, 2, .. in the order in which they came into the pool", FamilyTest::comingsAreNotUsedAgain);
+        Due.says("its children, theirs, and so on",
+            FamilyTest::chainOfForty, FamilyTest::chainThatCameBackwards, FamilyTest::sharedChildCountsOnce,
+            FamilyTest::familyEndsWhereOneLeft);
+        Due.says("its COMING: 1, 2, .. in the order in which they came into the pool",
+            FamilyTest::comingsCountUp, FamilyTest::comingsAreNotUsedAgain);
         Due.says("An object is used for at most 512 calls after it has been made", FamilyTest::comingsOfAFullLife);
         Due.end();
     }

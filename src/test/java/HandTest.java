@@ -13,8 +13,7 @@ public final class HandTest {
         Due.says("One more key that the next transaction spends: the name in hand and an index: true",
             HandTest::keysKeepTheNamesTheyWereToldWith);
         Due.says("false if there are 8", HandTest::noNinthKey);
-        Due.says("or this is one of them", HandTest::noKeyTwice);
-        Due.says("this is one of them", HandTest::onlyKeysInHandAreInTheWay);
+        Due.says("or this is one of them", HandTest::noKeyTwice, HandTest::onlyKeysInHandAreInTheWay);
         Due.says("All memory is the class's own.", HandTest::objectsShareNothing);
         Due.end();
     }

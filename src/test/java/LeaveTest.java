@@ -1,20 +1,17 @@
 /** Promises 5 to 7: take, drop, strike. */
 public final class LeaveTest {
     public static void main(String[] args) {
-        Due.says("The transaction with the name in hand leaves alone, its children stay: true", LeaveTest::takeLeavesTheChildren);
-        Due.says("The transaction with the name in hand leaves alone, its children stay: true", LeaveTest::takeOfAllInTurn);
-        Due.says("The transaction with the name in hand leaves alone, its children stay: true", LeaveTest::takenOneMayComeBack);
+        Due.says("The transaction with the name in hand leaves alone, its children stay: true",
+            LeaveTest::takeLeavesTheChildren, LeaveTest::takeOfAllInTurn, LeaveTest::takenOneMayComeBack);
         Due.says("false if there is none in the pool", LeaveTest::takeOfNone);
-        Due.says("The transaction with the name in hand goes, with its family: how many", LeaveTest::dropTakesTheFamily);
-        Due.says("The transaction with the name in hand goes, with its family: how many", LeaveTest::dropOfAnInnerOne);
-        Due.says("The transaction with the name in hand goes, with its family: how many", LeaveTest::dropLeavesNoTrace);
-        Due.says("how many; 0 if there is none. ## Promise 7", LeaveTest::dropOfNone);
+        Due.says("The transaction with the name in hand goes, with its family: how many",
+            LeaveTest::dropTakesTheFamily, LeaveTest::dropOfAnInnerOne, LeaveTest::dropLeavesNoTrace);
+        Due.says("how many; 0 if there is none", LeaveTest::dropOfNone);
         Due.says("Who spends the key of the name in hand and an index goes, with its family: how many",
             LeaveTest::strikeTakesTheSpenderAndItsFamily);
-        Due.says("Who spends the key of the name in hand and an index goes", LeaveTest::strikeOfAnyKeyOfEight);
-        Due.says("Who spends the key of the name in hand and an index goes", LeaveTest::strikeOfKeysOfStrangers);
-        Due.says("how many; 0 if there is none. ## Promise 8", LeaveTest::strikeOfNone);
-        Due.says("how many; 0 if there is none. ## Promise 8", LeaveTest::strikeOfKeysThatLeft);
+        Due.says("Who spends the key of the name in hand and an index goes",
+            LeaveTest::strikeOfAnyKeyOfEight, LeaveTest::strikeOfKeysOfStrangers);
+        Due.says("how many; 0 if there is none", LeaveTest::strikeOfNone, LeaveTest::strikeOfKeysThatLeft);
         Due.end();
     }
 

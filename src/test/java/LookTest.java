@@ -4,9 +4,10 @@ public final class LookTest {
     private static final int[] FAR = {Integer.MIN_VALUE, -256, -10, -1, 10, 11, 64, 256, 65536, Integer.MAX_VALUE};
 
     public static void main(String[] args) {
-        Due.says("Of the transaction with the name in hand: 0 fee, 1 size, 2 outputs, 3 how many keys it spends,"
-            + " 4 parents, 5 children, 6 how many its family has, 7 the sum of its family's fees, 8 of its sizes,"
-            + " 9 its coming", LookTest::lookTellsEverything);
+        Due.says("Of the transaction with the name in hand: 0 fee, 1 size, 2 outputs, 3 how many keys it"
+            + " spends, 4 parents, 5 children, 6 how many its family has, 7 the sum of its family's"
+            + " fees, 8 of its sizes, 9 its coming",
+            LookTest::lookTellsEverything);
         Due.says("6 how many its family has, 7 the sum of its family's fees, 8 of its sizes", LookTest::greatSums);
         Due.says("-1 if there is none in the pool", LookTest::lookAtNone);
         Due.says("or for another what", LookTest::lookForAnotherWhat);
@@ -16,8 +17,7 @@ public final class LookTest {
         Due.says("3 how many keys are in hand", LookTest::countOfKeysInHand);
         Due.says("4 how many came in all", LookTest::countOfComings);
         Due.says("-1 for another what", LookTest::countOfAnotherWhat);
-        Due.says("The sum of the fees of all in the pool.", LookTest::feesOfThePool);
-        Due.says("The sum of the fees of all in the pool.", LookTest::feesOfAFullPool);
+        Due.says("The sum of the fees of all in the pool.", LookTest::feesOfThePool, LookTest::feesOfAFullPool);
         Due.end();
     }
 

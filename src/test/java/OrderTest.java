@@ -3,27 +3,23 @@ public final class OrderTest {
     private static final long MOST_FEE = Due.MOST_FEE;
 
     public static void main(String[] args) {
-        Due.says("of those not taken whose parents are all taken", OrderTest::parentsBeforeChildren);
-        Due.says("of those not taken whose parents are all taken", OrderTest::allParentsAreNeeded);
-        Due.says("of those not taken whose parents are all taken", OrderTest::onlyParentsInThePoolCount);
-        Due.says("of those not taken whose parents are all taken", OrderTest::childIsNextOnceItIsOpen);
-        Due.says("with whom the sizes of those taken come to at most that size", OrderTest::sizeIsKept);
-        Due.says("with whom the sizes of those taken come to at most that size", OrderTest::smallerOnesFillTheRest);
-        Due.says("with whom the sizes of those taken come to at most that size", OrderTest::sizesOfAllKinds);
-        Due.says("the one with the greatest rate", OrderTest::greatestRateFirst);
-        Due.says("the one with the greatest rate", OrderTest::ownRateCountsNotTheFamilys);
-        Due.says("the one with the greatest rate", OrderTest::rateIsExact);
+        Due.says("of those not taken whose parents are all taken",
+            OrderTest::parentsBeforeChildren, OrderTest::allParentsAreNeeded, OrderTest::onlyParentsInThePoolCount,
+            OrderTest::childIsNextOnceItIsOpen);
+        Due.says("with whom the sizes of those taken come to at most that size",
+            OrderTest::sizeIsKept, OrderTest::smallerOnesFillTheRest, OrderTest::sizesOfAllKinds);
+        Due.says("the one with the greatest rate",
+            OrderTest::greatestRateFirst, OrderTest::lateOnesThatPayMoreGoFirst,
+            OrderTest::ownRateCountsNotTheFamilys, OrderTest::rateIsExact);
         Due.says("(of like ones that which came first) is taken", OrderTest::firstOfLikeOnes);
-        Due.says("until there is none", OrderTest::emptyPool);
-        Due.says("until there is none", OrderTest::thoseThatPayNothingAreTakenToo);
+        Due.says("until there is none", OrderTest::emptyPool, OrderTest::thoseThatPayNothingAreTakenToo);
         Due.says("How many were taken: the ROW", OrderTest::fortyInARow);
         Due.says("The pool is put in order for a block of a size", OrderTest::orderChangesNothingElse);
         Due.says("Number w (0 .. 3) of the name of one in the row", OrderTest::allFourNumbers);
         Due.says("k from 0 on", OrderTest::fromTheFirstToTheLast);
         Due.says("as it was put in order last", OrderTest::rowIsTheLastOrders);
         Due.says("(whether it is still in the pool or not)", OrderTest::rowOutlastsThePool);
-        Due.says("0 if there is none. ## Promise 11", OrderTest::rowOutsideIsZero);
-        Due.says("0 if there is none. ## Promise 11", OrderTest::noRowAtFirst);
+        Due.says("0 if there is none", OrderTest::rowOutsideIsZero, OrderTest::noRowAtFirst);
         Due.end();
     }
 
@@ -125,6 +121,21 @@ public final class OrderTest {
         Due.comes(x, 4, 0, 1, 1, 9, 3);
         Due.comes(x, 5, 31, 30, 1, 9, 4);
         rows(x, 1000, 3, 2, 5, 1, 4);
+    }
+
+    // The late ones come when others have left, so that they may stand where early ones stood.
+    private static void lateOnesThatPayMoreGoFirst() {
+        PoolDesk x = new PoolDesk();
+        Due.comes(x, 1, 50, 10, 1, 9, 0);
+        Due.comes(x, 2, 40, 10, 1, 9, 1);
+        Due.comes(x, 3, 5, 10, 1, 9, 2);
+        Due.comes(x, 4, 6, 10, 1, 9, 3);
+        Due.is("take 1", Due.named(x, 1).take(), true);
+        Due.is("take 2", Due.named(x, 2).take(), true);
+        Due.comes(x, 5, 20, 10, 1, 9, 0);
+        Due.comes(x, 6, 30, 10, 1, 9, 1);
+        rows(x, 100, 6, 5, 4, 3);
+        rows(x, 10, 6);
     }
 
     private static void ownRateCountsNotTheFamilys() {

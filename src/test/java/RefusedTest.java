@@ -6,12 +6,9 @@ import java.util.function.Consumer;
  */
 public final class RefusedTest {
     public static void main(String[] args) {
-        Due.says("A call that is refused changes nothing.", RefusedTest::refusedEnter);
-        Due.says("A call that is refused changes nothing.", RefusedTest::enterWithoutKeys);
-        Due.says("A call that is refused changes nothing.", RefusedTest::refusedSpend);
-        Due.says("A call that is refused changes nothing.", RefusedTest::leavingOfNone);
-        Due.says("A call that is refused changes nothing.", RefusedTest::questionsOutOfBounds);
-        Due.says("A call that is refused changes nothing.", RefusedTest::refusedInAFullPool);
+        Due.says("A call that is refused changes nothing.",
+            RefusedTest::refusedEnter, RefusedTest::enterWithoutKeys, RefusedTest::refusedSpend,
+            RefusedTest::leavingOfNone, RefusedTest::questionsOutOfBounds, RefusedTest::refusedInAFullPool);
         Due.end();
     }
 
